@@ -91,6 +91,16 @@ public final class AntennaHallPromises {
         }
     }
 
+    /** All that a net can hold, so that a step beyond its last place would leave its rows. */
+    private static AntennaHall fullNet() {
+        AntennaHall x = net(5);
+        for (int i = 0; i < 32; i++) {
+            x.near(i, i - 16);
+            x.probe(i, i % 2 == 0 ? -9 : 9);
+        }
+        return x;
+    }
+
     private static void nears() {
         AntennaHall x = net(1);
         due("near(0, 1000)", x.near(0, 1000), 0);
@@ -162,6 +172,11 @@ public final class AntennaHallPromises {
         tell(y, 1, 0);
         due("back of halves", y.back(), 0);
         due("back of an empty row", new AntennaHall().back(), 1);
+        AntennaHall z = fullNet();
+        z.tell(31, 32000);
+        due("back of 32", z.back(), 1);
+        due("near(0)", z.near(0, 0), 1000);
+        due("near(31)", z.near(31, 0), -1000);
     }
 
     private static void tells() {
@@ -217,6 +232,16 @@ public final class AntennaHallPromises {
         due("unprobe", x.unprobe(), 1);
         due("the probe stays", x.probe(1, 1), -3);
         due("tell(2)", x.tell(2, 0), -2);
+        x.probe(0, 5);
+        x.tell(0, 4);
+        due("unprobe, not whole at 0", x.unprobe(), 0);
+        x.tell(0, 10);
+        due("unprobe, whole at 0", x.unprobe(), 1);
+        due("tell(0)", x.tell(0, 0), 2);
+        AntennaHall y = fullNet();
+        y.tell(31, 18);
+        due("unprobe of 32", y.unprobe(), 1);
+        due("tell(31)", y.tell(31, 0), 2);
     }
 
     private static void gates() {
@@ -229,6 +254,8 @@ public final class AntennaHallPromises {
         due("figures beyond n are 0", x.gated(0, 4, 0), -24);
         due("none passes", x.gated(0, 16, 16), 0);
         due("gated(0, 31, 2)", x.gated(0, 31, 2), -8);
+        due("all of 32 pass", fullNet().gated(31, 0, 0), 32 * 15);
+        due("one of 32 passes", fullNet().gated(1, 31, 0), -16);
         due("i 4", x.gated(4, 0, 0), -10000001);
         due("i -1", x.gated(-1, 32, 0), -10000001);
         due("m 32", x.gated(0, 32, 0), -10000002);
@@ -339,10 +366,42 @@ public final class AntennaHallPromises {
         due("against it", y.mend(3, 3, 3, 0), -7);
     }
 
+    private static void mendsOfFive() {
+        AntennaHall x = net(5);
+        for (int i = 0; i < 32; i++) {
+            x.near(i, i < 16 ? 40 + i : -(24 + i));
+        }
+        int[] lost = {0, 7, 18, 25, 31};
+        for (int i : lost) {
+            x.lose(i, true);
+            x.near(i, 999);
+        }
+        due("five of 32", x.mends(16, 16), 1);
+        for (int i : lost) {
+            due("five of 32", x.mend(i, 16, 16, 0), i < 16 ? 40 + i : -(24 + i));
+            due("five of 32, below", x.mend(i, 16, 16, 1), 1);
+        }
+        due("not that figure", x.mends(16, 0), 0);
+        x.lose(25, false);
+        x.lose(16, true);
+        due("both of a kind", x.mends(16, 16), 0);
+        x.near(25, -49);
+        due("both of a kind", x.mends(16, 16), 2);
+        due("both of a kind", x.mend(31, 16, 16, 0), -9000000000000000003L);
+        AntennaHall y = net(5);
+        for (int i = 0; i < 5; i++) {
+            y.lose(i, true);
+        }
+        due("all pass", y.mends(0, 0), 2);
+        due("one passes", y.mends(31, 31), 1);
+        due("one passes", y.mend(4, 31, 31, 0), 0);
+    }
+
     private static void sheets() {
         AntennaHall x = new AntennaHall();
         due("sheet(2, 1)", x.sheet(2, 1), 2);
         due("sheet(8, 8)", x.sheet(8, 8), 64);
+        x.cell(0, 0, 5);
         x.cell(3, 3, 5);
         x.cell(8, 3, 5);
         x.cell(3, 8, 5);
@@ -353,6 +412,7 @@ public final class AntennaHallPromises {
         }
         due("nothing changed", x.digest(), before);
         due("sheet(8, 8)", x.sheet(8, 8), 64);
+        due("all 0", x.cell(0, 0, 0), 0);
         due("all 0", x.cell(3, 3, 0), 0);
         due("closing 0", x.cell(8, 3, 0), 0);
         due("ties 0", x.cell(3, 8, 0), 0);
@@ -423,10 +483,11 @@ public final class AntennaHallPromises {
         AntennaHall x = new AntennaHall();
         due("antennas(5)", x.antennas(5), 5);
         x.together(3, 4, 8, true);
+        x.together(0, 1, 8, true);
         due("antennas(2)", x.antennas(2), AntennaHall.OUTSIDE);
         due("antennas(6)", x.antennas(6), AntennaHall.OUTSIDE);
         due("antennas(MIN)", x.antennas(MIN), AntennaHall.OUTSIDE);
-        due("nothing changed", x.count(6), 1);
+        due("nothing changed", x.count(6), 2);
         due("antennas(5)", x.antennas(5), 5);
         due("nothing measured", x.count(6), 0);
         due("nothing measured", x.together(4, 3, 0, false), 0);
@@ -489,6 +550,11 @@ public final class AntennaHallPromises {
         due("loose, no more threes", x.loose(), 2);
         x.together(1, 4, -10000, true);
         due("loose", x.loose(), 10400 - 318);
+        x.together(2, 3, 0, true);
+        x.together(2, 4, 0, true);
+        x.together(3, 4, 0, true);
+        due("all pairs", x.count(6), 10);
+        due("loose, of antenna 1 by 2, 3 and 0, 4", x.loose(), 552 + 9800);
         AntennaHall y = new AntennaHall();
         due("nothing measured", y.loose(), AntennaHall.NONE);
         y.together(0, 1, 5, true);
@@ -531,6 +597,15 @@ public final class AntennaHallPromises {
         due("one measured, nothing off", x.faults(), AntennaHall.NONE);
         x.measure(2, -5, true);
         due("one measured, off", x.faults(), 4);
+        x.measure(2, -4, true);
+        x.measure(0, 11, true);
+        due("off at 0 alone", x.faults(), 0);
+        AntennaHall y = fullNet();
+        y.measure(31, 7, true);
+        due("any of 32", y.faults(), 32);
+        due("the last of them", y.fault(31), 31);
+        y.measure(31, 0, true);
+        due("nothing of 32 is off", y.faults(), AntennaHall.NONE);
     }
 
     private static void faultElements() {
@@ -591,6 +666,12 @@ public final class AntennaHallPromises {
         x.near(0, 20);
         x.limit(0, 23);
         due("above 0", x.broken(), 0);
+        AntennaHall y = fullNet();
+        due("none of 32", y.broken(), AntennaHall.NONE);
+        y.limit(31, 0);
+        due("0 is not beyond 0", y.broken(), AntennaHall.NONE);
+        y.near(5, 0);
+        due("the last", y.broken(), 31);
     }
 
     private static void doubts() {
@@ -617,7 +698,10 @@ public final class AntennaHallPromises {
         due("greatest", x.budget(2), 40);
         x.doubt(1);
         due("root, rounded up", x.budget(1), 51);
-        due("greatest", x.budget(2), 40);
+        x.sure();
+        x.doubt(50);
+        x.doubt(40);
+        due("the first is the greatest", x.budget(2), 50);
         due("what 3", x.budget(3), AntennaHall.OUTSIDE);
         due("what -1", x.budget(-1), AntennaHall.OUTSIDE);
         x.sure();
@@ -707,7 +791,7 @@ public final class AntennaHallPromises {
             case 11: powers(); break;
             case 12: losses(); break;
             case 13: mendCounts(); break;
-            case 14: mends(); break;
+            case 14: mends(); mendsOfFive(); break;
             case 15: sheets(); break;
             case 16: cells(); break;
             default: break;
