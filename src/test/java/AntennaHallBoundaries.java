@@ -329,6 +329,55 @@ public final class AntennaHallBoundaries {
             due("call 512, near(1, 0)", x.near(1, 0), 510);
         }
 
+        // Promise 1, What it is: "what later calls answer is free": all that counts is that they end, without a
+        // throw, whatever they are given.
+        static void promise01LaterCallsStillEnd() {
+            int[] given = {MIN, -1, 0, 1, 2, 3, 5, 8, 31, 32, 1000, 10000, 1000000, MAX};
+            AntennaHall x = full();
+            for (int first : given) {
+                for (int second : given) {
+                    callAll(x, first, second, first < second);
+                }
+            }
+        }
+
+        private static void callAll(AntennaHall x, int a, int b, boolean is) {
+            x.near(a, b);
+            x.far(a);
+            x.tell(a, b);
+            x.probe(a, b);
+            x.seen(a);
+            x.unprobe();
+            x.back();
+            x.gated(a, b, a);
+            x.power(a, b);
+            x.lose(a, is);
+            x.mends(a, b);
+            x.mend(a, b, a, b);
+            x.measure(a, b, is);
+            x.faults();
+            x.fault(a);
+            x.by(a);
+            x.limit(a, b);
+            x.broken();
+            x.cell(a, b, a);
+            x.closed(a, b);
+            x.tied(a, b);
+            x.sheet(a, b);
+            x.together(a, b, a, is);
+            x.gain(a);
+            x.loose();
+            x.antennas(b);
+            x.doubt(a);
+            x.budget(b);
+            x.count(a);
+            x.digest();
+            if (a == b) {
+                x.sure();
+                x.net(a);
+            }
+        }
+
         // Promise 2, Terms: "n being 2 to the k, k 1 to 5": the least k, and each up to the greatest.
         static void promise02EachSize() {
             AntennaHall x = new AntennaHall();
@@ -1327,8 +1376,8 @@ public final class AntennaHallBoundaries {
             }
         }
 
-        // Promise 16: "(row R: CLOSING; column C: TIES, not of row R)": the corner is nothing. Terms: "they
-        // change nothing".
+        // Promise 16: "(row R: CLOSING; column C: TIES, not of row R)"; Terms: "(CLOSING, a row of C); TIES: of
+        // each row a number": the corner is nothing. Terms: "they change nothing".
         static void promise16NoTieOfClosing() {
             refused("cell(3, 2, 0)", x -> x.cell(3, 2, 0), -10101);
             AntennaHall x = new AntennaHall();
@@ -1798,7 +1847,7 @@ public final class AntennaHallBoundaries {
             due("faults()", netOf(5, 1000).faults(), NONE);
         }
 
-        // Promise 24: "NONE: nothing is off": one, or all of 32, are MEASURED as due.
+        // Promise 24: "NONE: nothing is off"; Terms: "due is NEAR": one, or all of 32, are MEASURED as due.
         static void promise24NothingOff() {
             AntennaHall x = netOf(5, 7);
             x.measure(0, 224, true);

@@ -29,6 +29,7 @@ public final class AntennaHallPromises {
         return h;
     }
 
+    // Promise 1: "n 2; a SHEET of 2 rows, 1 column; 3 antennas, nothing measured; no DOUBTS."
     private static void aNewObject() {
         AntennaHall x = new AntennaHall();
         long[] counts = {2, 0, 0, 2, 1, 3, 0, 0};
@@ -53,6 +54,8 @@ public final class AntennaHallPromises {
             2, 1, 0, 0, 0, 0, 0, 3, 0, 0, 0));
     }
 
+    // Promise 2: "n becomes 2 to the k, NEAR 0, THE PROBE 1, nothing LOST, nothing MEASURED, LIMITS as at first:
+    // n."
     private static void nets() {
         AntennaHall x = net(2, 5, 6, 7, 8);
         x.probe(3, 2);
@@ -101,6 +104,7 @@ public final class AntennaHallPromises {
         return x;
     }
 
+    // Promise 3: "NEAR of a PLACE becomes v: what it was."
     private static void nears() {
         AntennaHall x = net(1);
         due("near(0, 1000)", x.near(0, 1000), 0);
@@ -116,6 +120,7 @@ public final class AntennaHallPromises {
         due("near(1, 4)", x.near(1, 4), 0);
     }
 
+    // Promise 4: "FAR of j: the sum over i of NEAR of i, times the SIGN of i and j."
     private static void fars() {
         AntennaHall x = net(3, -3, 4, 6, 3, -5, 1, 2, -2);
         int[] want = {6, -6, -12, -20, 14, -2, -4, 0};
@@ -144,6 +149,7 @@ public final class AntennaHallPromises {
         }
     }
 
+    // Promise 5: "NEAR of all PLACES becomes what goes BACK from the rows told so far by tell(): 1"
     private static void backs() {
         AntennaHall x = net(2, 9, 9, 9, 9);
         tell(x, -2, -4, -8, -10);
@@ -179,6 +185,8 @@ public final class AntennaHallPromises {
         due("near(31)", z.near(31, 0), -1000);
     }
 
+    // Promise 6: "A row at hand (0 each at first and behind net()): its number j becomes v (-1000000 to 1000000):
+    // what it was."
     private static void tells() {
         AntennaHall x = net(1);
         due("tell(0, 1000000)", x.tell(0, 1000000), 0);
@@ -192,6 +200,7 @@ public final class AntennaHallPromises {
         due("near stays", x.near(1, 0), 0);
     }
 
+    // Promise 7: "THE PROBE's number of j becomes v: what it was."
     private static void probes() {
         AntennaHall x = net(1);
         due("probe(1, 9)", x.probe(1, 9), 1);
@@ -206,6 +215,7 @@ public final class AntennaHallPromises {
         due("probe(0, 1)", x.probe(0, 1), 1);
     }
 
+    // Promise 8: "SEEN of j is FAR of j times it."
     private static void seens() {
         AntennaHall x = net(1, 5, 8);
         x.probe(1, -7);
@@ -216,6 +226,7 @@ public final class AntennaHallPromises {
         due("seen(MIN)", x.seen(MIN), -10000001);
     }
 
+    // Promise 9: "The row at hand becomes what it is without THE PROBE, being SEEN: 1"
     private static void unprobes() {
         AntennaHall x = net(2);
         x.probe(1, -3);
@@ -244,6 +255,8 @@ public final class AntennaHallPromises {
         due("tell(31)", y.tell(31, 0), 2);
     }
 
+    // Promise 10: "GATED of i: the sum over j that it passes of FAR of j, times SIGN of i and j (to be taken by
+    // n)."
     private static void gates() {
         AntennaHall x = net(2, -6, 1, 3, 0);
         due("gated(1, 2, 2)", x.gated(1, 2, 2), 2);
@@ -264,6 +277,7 @@ public final class AntennaHallPromises {
         due("v -1", x.gated(0, 0, -1), -10000002);
     }
 
+    // Promise 11: "The sum of squares of FAR of those j that a GATE passes."
     private static void powers() {
         AntennaHall x = net(2, -6, 1, 3, 0);
         due("power(1, 0)", x.power(1, 0), 68);
@@ -282,6 +296,7 @@ public final class AntennaHallPromises {
         due("beyond ints", y.power(0, 0), 32L * 32 * 1000000);
     }
 
+    // Promise 12: "A PLACE is LOST, or not: 1 if it was, else 0."
     private static void losses() {
         AntennaHall x = net(3);
         due("lose(0, true)", x.lose(0, true), 0);
@@ -302,6 +317,7 @@ public final class AntennaHallPromises {
         due("count", x.count(1), 5);
     }
 
+    // Promise 13: "THE MEND: 0 there is none, 1 just one, 2 many."
     private static void mendCounts() {
         AntennaHall x = net(2, 6, -6, -4, 12);
         due("nothing lost, all pass", x.mends(0, 0), 1);
@@ -328,6 +344,7 @@ public final class AntennaHallPromises {
         due("equations that say the same, against one another", z.mends(4, 0), 0);
     }
 
+    // Promise 14: "The fraction of a LOST PLACE by THE MEND, in lowest terms: part 0 above, 1 below (above 0)."
     private static void mends() {
         AntennaHall x = net(2, 6, -6, -4, 12);
         x.lose(1, true);
@@ -397,6 +414,7 @@ public final class AntennaHallPromises {
         due("one passes", y.mend(4, 31, 31, 0), 0);
     }
 
+    // Promise 15: "The SHEET becomes R by C, all of it, CLOSING, TIES 0: how many numbers."
     private static void sheets() {
         AntennaHall x = new AntennaHall();
         due("sheet(2, 1)", x.sheet(2, 1), 2);
@@ -421,6 +439,7 @@ public final class AntennaHallPromises {
         due("columns", x.count(4), 3);
     }
 
+    // Promise 16: "A number of the SHEET (row R: CLOSING; column C: TIES, not of row R) becomes v: what it was."
     private static void cells() {
         AntennaHall x = new AntennaHall();
         x.sheet(3, 2);
@@ -441,6 +460,8 @@ public final class AntennaHallPromises {
         due("row MAX", x.cell(MAX, MAX, MAX), -10101);
     }
 
+    // Promise 17: "CLOSED: the r-th row less D times r by R, rounded down (D, of each column, CLOSING less row
+    // 0)."
     private static void closings() {
         AntennaHall x = new AntennaHall();
         x.sheet(3, 2);
@@ -463,6 +484,7 @@ public final class AntennaHallPromises {
         due("column -1", x.closed(0, -1), -10101);
     }
 
+    // Promise 18: "TIED: each row and, throughout, what its TIE is more than its column 0."
     private static void ties() {
         AntennaHall x = new AntennaHall();
         x.sheet(3, 2);
@@ -479,6 +501,7 @@ public final class AntennaHallPromises {
         due("tied(2, 0)", x.tied(2, 0), 0);
     }
 
+    // Promise 19: "m antennas, nothing measured: m."
     private static void antennas() {
         AntennaHall x = new AntennaHall();
         due("antennas(5)", x.antennas(5), 5);
@@ -495,6 +518,8 @@ public final class AntennaHallPromises {
         due("count(5)", x.count(5), 3);
     }
 
+    // Promise 20: "What a and b have together becomes v, or is not measured (is false): 1 if it was measured, else
+    // 0."
     private static void pairs() {
         AntennaHall x = new AntennaHall();
         due("together(0, 1)", x.together(0, 1, 10000, true), 0);
@@ -525,6 +550,8 @@ public final class AntennaHallPromises {
         return x;
     }
 
+    // Promise 21: "The gain of a, twice, by its first THREE that is whole (b below c, the least b first, then the
+    // least c)"
     private static void gains() {
         AntennaHall x = fiveAntennas();
         due("gain(0)", x.gain(0), 320);
@@ -543,6 +570,7 @@ public final class AntennaHallPromises {
         due("gain(3)", x.gain(3), -23);
     }
 
+    // Promise 22: "LOOSE: the greatest difference of such numbers of one antenna."
     private static void loosenesses() {
         AntennaHall x = fiveAntennas();
         due("loose", x.loose(), 2);
@@ -564,6 +592,7 @@ public final class AntennaHallPromises {
         due("one three", y.loose(), 0);
     }
 
+    // Promise 23: "FAR of j is MEASURED as v, or not at all (is false): 1 if it was measured, else 0."
     private static void measurements() {
         AntennaHall x = net(1);
         due("measure(0)", x.measure(0, 1000000, true), 0);
@@ -579,6 +608,8 @@ public final class AntennaHallPromises {
         due("count", x.count(2), 0);
     }
 
+    // Promise 24: "What is off at j: MEASURED less FAR. A FAULT of one ELEMENT i by x: what is off at each
+    // measured j is x times SIGN of i and j, x not 0."
     private static void faultCounts() {
         AntennaHall x = net(2, 1, 2, 3, 4);
         due("nothing measured", x.faults(), AntennaHall.NONE);
@@ -608,6 +639,7 @@ public final class AntennaHallPromises {
         due("nothing of 32 is off", y.faults(), AntennaHall.NONE);
     }
 
+    // Promise 25: "The k-th of them; NONE."
     private static void faultElements() {
         AntennaHall x = net(2, 1, 2, 3, 4);
         due("none", x.fault(0), AntennaHall.NONE);
@@ -624,6 +656,7 @@ public final class AntennaHallPromises {
         due("no second", x.fault(1), AntennaHall.NONE);
     }
 
+    // Promise 26: "Its x; 0: there is none."
     private static void faultSizes() {
         AntennaHall x = net(2, 1, 2, 3, 4);
         due("none", x.by(0), 0);
@@ -641,6 +674,7 @@ public final class AntennaHallPromises {
         due("no more", x.by(2), 0);
     }
 
+    // Promise 27: "The LIMIT of j becomes v: what it was."
     private static void limits() {
         AntennaHall x = net(1);
         due("limit(0, 0)", x.limit(0, 0), 100000);
@@ -653,6 +687,7 @@ public final class AntennaHallPromises {
         due("limit(1, 8)", x.limit(1, 8), 7);
     }
 
+    // Promise 28: "The first j where FAR is beyond its LIMIT; NONE."
     private static void breaks() {
         AntennaHall x = net(2, -6, 1, 3, 0);
         due("none", x.broken(), AntennaHall.NONE);
@@ -674,6 +709,7 @@ public final class AntennaHallPromises {
         due("the last", y.broken(), 31);
     }
 
+    // Promise 29: "A DOUBT: how many."
     private static void doubts() {
         AntennaHall x = new AntennaHall();
         due("doubt(-1)", x.doubt(-1), AntennaHall.OUTSIDE);
@@ -686,6 +722,7 @@ public final class AntennaHallPromises {
         due("count", x.count(7), 18);
     }
 
+    // Promise 30: "what = 0 their sum, 1 the root of the sum of their squares, rounded up, 2 the greatest."
     private static void budgets() {
         AntennaHall x = new AntennaHall();
         for (int what = 0; what <= 2; what++) {
@@ -720,6 +757,7 @@ public final class AntennaHallPromises {
         }
     }
 
+    // Promise 31: "No DOUBTS: how many there were."
     private static void sures() {
         AntennaHall x = new AntennaHall();
         due("none", x.sure(), 0);
@@ -731,6 +769,8 @@ public final class AntennaHallPromises {
         due("the first again", x.doubt(1), 1);
     }
 
+    // Promise 32: "How many: 0 n, 1 LOST PLACES, 2 MEASURED ones, 3 rows of the SHEET, 4 its columns, 5 antennas,
+    // 6 pairs measured, 7 DOUBTS."
     private static void counts() {
         AntennaHall x = net(4);
         x.lose(3, true);
@@ -753,6 +793,9 @@ public final class AntennaHallPromises {
         due("count(MIN)", x.count(MIN), AntennaHall.OUTSIDE);
     }
 
+    // Promise 33: "n; of each PLACE NEAR, its PROBE's, the row at hand's number, 1 if LOST, else 0, 1 and
+    // MEASURED, or 0, its LIMIT; R, C, rows of the SHEET, CLOSING, TIES; m, of each pair a below b, by a, then b,
+    // 1 and what was measured, or 0; DOUBTS."
     private static void digests() {
         AntennaHall x = net(1, 5, -6);
         x.probe(1, -2);
